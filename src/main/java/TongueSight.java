@@ -24,6 +24,14 @@ public final class TongueSight {
     private static final int[] LOWEST = {0, 0, 0, 0, 1, 0, 1, 0, 0, 0, 1, 0};
     private static final int[] HIGHEST = {2, 4, 3, 9, 9, 1, 9, 20, 20, 20, 99, 15};
 
+    // For each POINT those to the left of it, to the right, above, below; -1 where there is none.
+    private static final int ON_RIGHT = 1, ABOVE = 2, BELOW = 3;
+    private static final int[] BESIDE = {
+        -1, 1, -1, 4, 0, 2, -1, 5, 1, 3, -1, 6, 2, -1, -1, 7,
+        -1, 5, 0, 8, 4, 6, 1, 9, 5, 7, 2, 10, 6, -1, 3, 11,
+        -1, 9, 4, 12, 8, 10, 5, 13, 9, 11, 6, 14, 10, -1, 7, 15,
+        -1, 13, 8, -1, 12, 14, 9, -1, 13, 15, 10, -1, 14, -1, 11, -1};
+
     private final Laws laws = new Laws();
     private final Laws unhurt = new Laws();
     private final Script script = new Script();
@@ -218,8 +226,7 @@ public final class TongueSight {
         if (m == 0) {
             return NONE;
         }
-        int least = Integer.numberOfTrailingZeros(scenes);
-        return bestMove(scenes & likeHere(camera, least), camera, m);
+        return firstMove(scenes & likeHere(camera, leastOf(scenes)), m);
     }
 
     public int needs(int scenes) {
@@ -475,6 +482,15 @@ public final class TongueSight {
         return bits >> i & 1;
     }
 
+    /** The least SCENE of a set. */
+    private static int leastOf(int scenes) {
+        int least = 0;
+        while (least < SCENES - 1 && bit(scenes, least) == 0) {
+            least++;
+        }
+        return least;
+    }
+
     /** POINTS (bits) of which the first row has more than the second. */
     private static int above(int[] more, int[] less) {
         int bits = 0;
@@ -580,7 +596,7 @@ public final class TongueSight {
     private int likeHere(int place, int scene) {
         if (!likeness.isKnown(place)) {
             for (int i = 0; i < SCENES; i++) {
-                seen(i, place);
+                frames[i].see(lights, i, place, laws, tiredOf);
             }
             likeness.compare(place, frames);
         }
@@ -595,31 +611,32 @@ public final class TongueSight {
             if (bit(left, scene) == 1) {
                 int like = set & likeHere(place, scene);
                 left &= ~like;
-                told += toldOfLike(like, place, moves);
+                told += moves <= 0 || Integer.bitCount(like) == 1 ? 1 : mostTold(like, place, moves);
             }
         }
         return told;
     }
 
-    /** The same of a set whose SCENES are all ALIKE till now. */
-    private int toldOfLike(int like, int place, int moves) {
-        if (moves <= 0 || Integer.bitCount(like) == 1) {
-            return 1;
-        }
-        return toldFrom(like, placeAfter(place, bestMove(like, place, moves)), moves - 1);
-    }
-
-    private int bestMove(int like, int place, int moves) {
-        int best = 0;
+    /** The same of a set whose SCENES are all ALIKE till now, by the MOVE that is best for it. */
+    private int mostTold(int like, int place, int moves) {
         int most = 0;
         for (int move = 0; move < MOVES; move++) {
-            int told = toldFrom(like, placeAfter(place, move), moves - 1);
+            most = Math.max(most, toldFrom(like, placeAfter(place, move), moves - 1));
+        }
+        return most;
+    }
+
+    private int firstMove(int like, int moves) {
+        int most = 0;
+        int first = 0;
+        for (int move = 0; move < MOVES; move++) {
+            int told = toldFrom(like, placeAfter(camera, move), moves - 1);
             if (told > most) {
                 most = told;
-                best = move;
+                first = move;
             }
         }
-        return best;
+        return first;
     }
 
     /**
@@ -730,7 +747,7 @@ public final class TongueSight {
                     draft.values[ROUND] = 1;
                     break;
                 case DEAD:
-                    draft.values[DEAD] |= readNewPoint(draft.values[DEAD]);
+                    draft.values[DEAD] |= 1 << readNewPoint(draft.values[DEAD]);
                     break;
                 case LEAST:
                     readLeast();
@@ -753,27 +770,21 @@ public final class TongueSight {
         }
 
         private void readLeast() {
-            int told = readNewPoint(leastsTold);
-            if (wrong != 0) {
-                return;
-            }
-            leastsTold |= told;
-            int p = Integer.numberOfTrailingZeros(told);
-            int least = readNumber(1, 9);
-            if (p < POINTS) {
-                draft.least[p] = least;
-            }
+            int p = readNewPoint(leastsTold);
+            leastsTold |= 1 << p;
+            draft.least[p] = readNumber(1, 9);
         }
 
-        /** A POINT that is not among those told already, as its bit. */
+        /** A POINT that is not among those told already (bits). */
         private int readNewPoint(int told) {
             int p = readNumber(0, POINTS - 1);
             if (wrong == 0 && bit(told, p) == 1) {
                 refuse(4);
             }
-            return wrong == 0 ? 1 << p : 0;
+            return p;
         }
 
+        /** A NUMBER within its bounds; the lowest one stands for one that is refused, as its draft is not used. */
         private int readNumber(int lowest, int highest) {
             if (wrong != 0) {
                 return lowest;
@@ -958,8 +969,8 @@ public final class TongueSight {
         }
 
         int loudness(int p, int mask) {
-            for (int side = 2; side < SIDES; side++) {
-                int next = neighbour(p, side);
+            for (int side = ABOVE; side <= BELOW; side++) {
+                int next = BESIDE[SIDES * p + side];
                 if (next >= 0 && shown[next] - shown[p] >= mask) {
                     return 0;
                 }
@@ -982,11 +993,11 @@ public final class TongueSight {
             if (way == DARK - PLAIN) {
                 return LIGHT_MOST - has[p];
             }
-            return way == EDGES - PLAIN ? Math.max(edge(p, 1), edge(p, 3)) : has[p];
+            return way == EDGES - PLAIN ? Math.max(edge(p, ON_RIGHT), edge(p, BELOW)) : has[p];
         }
 
         private int edge(int p, int side) {
-            int next = neighbour(p, side);
+            int next = BESIDE[SIDES * p + side];
             return next < 0 ? 0 : Math.abs(has[p] - has[next]);
         }
 
@@ -1003,7 +1014,7 @@ public final class TongueSight {
 
         private static int firstLiving(int p, int dead) {
             for (int side = 0; side < SIDES; side++) {
-                int next = neighbour(p, side);
+                int next = BESIDE[SIDES * p + side];
                 if (next >= 0 && bit(dead, next) == 0) {
                     return next;
                 }
@@ -1030,26 +1041,10 @@ public final class TongueSight {
         private int shownBeside(int p) {
             int all = 0;
             for (int side = 0; side < SIDES; side++) {
-                int next = neighbour(p, side);
+                int next = BESIDE[SIDES * p + side];
                 all += next < 0 ? 0 : shown[next];
             }
             return all;
-        }
-
-        /** The POINT to the left (side 0), right (1), above (2), below (3); -1 if there is none. */
-        private static int neighbour(int p, int side) {
-            int row = p / POINT_ROW;
-            int column = p % POINT_ROW;
-            switch (side) {
-                case 0:
-                    return column > 0 ? p - 1 : -1;
-                case 1:
-                    return column < POINT_ROW - 1 ? p + 1 : -1;
-                case 2:
-                    return row > 0 ? p - POINT_ROW : -1;
-                default:
-                    return row < POINT_ROW - 1 ? p + POINT_ROW : -1;
-            }
         }
     }
 

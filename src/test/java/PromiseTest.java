@@ -19,6 +19,7 @@ public final class PromiseTest {
         pointsHave();
         pointsShow();
         pointsGoRound();
+        pointsBeside();
         pointsFeel();
         feelsBits();
         tenthsTire();
@@ -85,6 +86,10 @@ public final class PromiseTest {
         is("3 end min", x.end(MIN), BAD);
         is("3 end max", x.end(MAX), BAD);
         is("3 end 192", x.end(192), 193);
+        TongueSight y = new TongueSight();
+        y.feed(0);
+        is("3 end 0", y.end(0), 8);
+        is("3 end 0 again", y.end(0), 0);
         is("2 feed again", x.feed(0x2020202020202020L), 200);
         is("4 blanks", x.text(), 0);
         is("4 empty then", x.count(5), 0);
@@ -119,6 +124,15 @@ public final class PromiseTest {
         is("6 plain", x.rule(0), 0);
         is("4 empty", x.text(), 0);
         is("6 there again", x.rule(10), 40);
+        is("4 lowest", Due.tell(x, "spread 0;less 0;tire 0;most 1;mask 1;own 0;led 0;still 0;there 1;dead 0;"
+                + "least 0 1;"), 11);
+        int[] lowest = {0, 0, 0, 0, 1, 0, 1, 0, 0, 0, 1, 1};
+        for (int i = 0; i < lowest.length; i++) {
+            is("6 lowest rule " + i, x.rule(i), lowest[i]);
+        }
+        is("4 highest", Due.tell(x, "most 9;mask 9;led 20;least 15 9;dead 15;"), 5);
+        is("6 mask", x.rule(6), 9);
+        is("6 led", x.rule(8), 20);
         StringBuilder dead = new StringBuilder();
         for (int p = 0; p < 16; p++) {
             dead.append("dead ").append(p).append(';');
@@ -149,6 +163,9 @@ public final class PromiseTest {
         fault("wa plain;", 1, 0);
         fault("spreadspread 1;", 1, 0);
         fault("way dar;", 1, 4);
+        fault("wayz plain;", 1, 0);
+        fault("xay plain;", 1, 0);
+        fault("way plaim;", 1, 4);
         fault("way x;", 1, 4);
         fault("spread x;", 1, 7);
         fault("round x;", 1, 6);
@@ -393,6 +410,38 @@ public final class PromiseTest {
         is("12 round in the dark", x.point(0, 4, 1), 9);
     }
 
+    /** A lone bright POINT with SPREAD 4 is felt by those beside it; DEAD, with ROUND, by the first of them. */
+    private static void pointsBeside() {
+        for (int p = 0; p < 16; p++) {
+            TongueSight x = with("spread 4;", 0, 8 * (p / 4) + p % 4, 9);
+            int left = p % 4 > 0 ? 1 << p - 1 : 0;
+            int right = p % 4 < 3 ? 1 << p + 1 : 0;
+            int above = p > 3 ? 1 << p - 4 : 0;
+            int below = p < 12 ? 1 << p + 4 : 0;
+            is("12 beside " + p, x.feels(0, 0), 1 << p | left | right | above | below);
+            x = with("round;", 0, 8 * (p / 4) + p % 4, 9);
+            x.kill(p, true);
+            for (int bit : new int[] {left, right, above, below}) {
+                if (bit != 0) {
+                    is("12 round from " + p, x.feels(0, 0), bit);
+                    x.kill(Integer.numberOfTrailingZeros(bit), true);
+                }
+            }
+            is("12 none beside " + p, x.feels(0, 0), 0);
+        }
+        TongueSight x = with("spread 4;", 0, 9, 4, 15, 4);
+        is("12 16 by 16", x.point(0, 4, 2), 1);
+        is("12 16 by 16 in the corner", x.point(0, 0, 2), 0);
+        x.light(0, 9, 3);
+        is("12 12 by 16", x.point(0, 4, 2), 0);
+        is("12 12 by 16", x.point(0, 10, 2), 0);
+        x = with("spread 4;", 0, 1, 3);
+        is("12 12 by 16 in the corner", x.point(0, 0, 2), 0);
+        x = with("spread 1;", 0, 0, 9, 5, 9, 8, 9, 10, 9, 1, 9, 2, 5, 17, 7);
+        // POINT 5: 7, 9, 9, 9 and 9 beside it make 34 of 16.
+        is("12 34 by 16", x.point(0, 5, 2), 2);
+    }
+
     private static void pointsFeel() {
         TongueSight x = with("spread 3;", 0, 9, 5, 8, 9, 10, 4, 1, 3, 17, 2);
         // 3 times 18 by 16 is 3.
@@ -474,6 +523,11 @@ public final class PromiseTest {
         is("16 rest", x.rest(), 1);
         is("16 rest again", x.rest(), 0);
         is("15 all rested", x.tired(0), 0);
+        x = with("", 0, 0, 9);
+        x.tenths(0, 20);
+        is("15 nine at most, without tire", x.tired(0), 9);
+        x.tenths(1, 8);
+        is("15 one left", x.tired(0), 1);
         x = with("still 20;", 0);
         x.tenths(0, 20);
         x.tenths(0, 20);
@@ -551,10 +605,42 @@ public final class PromiseTest {
         for (int[] b : bad) {
             is("19 bad", x.right(b[0], b[1], b[2]), BAD);
         }
+        is("20 one", x.needs(1), 0);
+        is("19 one", x.right(32, 3, 0), 1);
+        is("19 one, any move", x.right(32, 1, 1), 0);
         is("20 bad", x.needs(0), BAD);
         is("20 bad", x.needs(64), BAD);
         is("20 bad", x.needs(MIN), BAD);
         is("19 the camera stays", x.count(0), 25);
+        x = with("", 0, 0, 1);
+        is("19 at place 0", x.right(63, 0, 0), 2);
+        is("20 at place 0", x.needs(3), 0);
+        // From the middle CELL 8 is twice left and up, CELL 9 is left and up.
+        x = with("", 25, 8, 1);
+        is("20 in, up and twice left is too far", x.needs(3), NONE);
+        x.light(0, 9, 1);
+        is("20 in, left, up", x.needs(3), 3);
+        is("19 not with two", x.right(3, 2, 0), 1);
+        is("19 with three", x.right(3, 3, 0), 2);
+        is("19 in first", x.right(3, 3, 1), 4);
+        x.place(12);
+        is("20 left, up", x.needs(3), 2);
+        is("19 left first", x.right(3, 2, 1), 0);
+        x.light(5, 9, 1);
+        is("19 the least of the set leads", x.right(32 | 2, 2, 1), 0);
+        x.place(13);
+        is("19 left, then left and up", x.right(32 | 2, 3, 1), 0);
+        is("19 two moves do not do", x.right(32 | 2, 2, 0), 1);
+        x.place(0);
+        is("19 what is there is 1: not told from 2", x.right(2 | 4 | 32, 1, 1), 0);
+        is("19 what is there is 5", x.right(32 | 1, 0, 0), 2);
+        x.place(24);
+        x.light(4, 55, 5);
+        x.light(5, 55, 5);
+        // 4 and 5 are one at PLACE 24, and parted by CELL 28 just above it.
+        x.light(4, 28, 2);
+        is("19 the least scene alone decides", x.right(48, 1, 1), 2);
+        is("19 another is there", x.right(49, 1, 1), 0);
     }
 
     private static void movesAndHead() {
@@ -629,12 +715,21 @@ public final class PromiseTest {
         is("25 fifty", x.lessons(1), 50);
         Due.tell(x, "own 0;led 1;there 51;");
         is("25 not in sixty", x.lessons(0), NONE);
+        Due.tell(x, "own 0;led 1;there 13;");
+        is("25 above 12 after a rest", x.lessons(0), 14);
+        Due.tell(x, "own 1;led 0;there 5;");
+        is("25 own above 12 after a rest", x.lessons(0), 6);
         is("25 bad", x.lessons(2), BAD);
         is("25 bad", x.lessons(-1), BAD);
     }
 
     private static void asksByHalves() {
-        TongueSight x = with("least 3 9;least 4 5;least 5 6;", 25);
+        TongueSight x = with("least 3 9;least 4 5;least 5 6;least 6 2;least 7 3;", 25);
+        is("26 two of 9", x.asks(6, 9), 4);
+        is("26 three of 9", x.asks(7, 9), 3);
+        is("26 two of 2", x.asks(6, 2), 1);
+        is("26 two of 4", x.asks(6, 4), 2);
+        is("26 three of 3", x.asks(7, 3), 1);
         is("26 nine of 9", x.asks(3, 9), 3);
         is("26 five of 9", x.asks(4, 9), 3);
         is("26 six of 9", x.asks(5, 9), 3);
@@ -699,6 +794,22 @@ public final class PromiseTest {
         is("29 by tongue", x.beside(0), 2);
         is("29 by ear", x.beside(1), 0);
         is("29 by both", x.beside(2), 0);
+        x = with("mask 3;less 3;", 0);
+        x.light(0, 24, 2);
+        x.light(1, 24, 3);
+        x.light(2, 0, 4);
+        x.light(3, 0, 5);
+        x.light(4, 0, 6);
+        x.light(5, 0, 6);
+        x.light(5, 8, 3);
+        is("29 the first pair by tongue", x.beside(0), 2);
+        is("29 the last pair by ear", x.beside(1), 1);
+        is("29 the last pair by both", x.beside(2), 1);
+        x.light(5, 8, 9);
+        x.light(1, 24, 2);
+        is("29 the first pair", x.beside(0), 1);
+        is("29 the first pair", x.beside(1), 1);
+        is("29 the first pair", x.beside(2), 1);
         is("29 bad", x.beside(3), BAD);
         is("29 bad", x.beside(-1), BAD);
     }
@@ -846,6 +957,26 @@ public final class PromiseTest {
             is("35 bad", x.read(b[0], b[1], b[2], b[3], b[4], b[5]), BAD);
         }
         is("36 not by a bad one", x.torn(), 2);
+        is("35 none behind the last", x.read(2, 1, 1, 0, 64, 0), 0);
+        is("36 none is whole", x.torn(), 0);
+        x.sheet(0, 0, 0);
+        is("35 an empty one", x.read(2, 0, 0, 0, 0, 1), 0);
+        is("36 index", x.torn(), 2);
+        is("35 an empty one of another lane", x.read(2, 0, 1, 0, 0, 1), 0);
+        is("36 cast", x.torn(), 3);
+        is("35 nothing, no cell", x.read(2, 3, 1, 0, 0, 0), 0);
+        is("36 null is found at a cell", x.torn(), 0);
+        is("35 another lane, no cell", x.read(2, 1, 2, 0, 0, 0), 0);
+        is("36 cast is found before a cell", x.torn(), 3);
+        x.sheet(0, 0, 64);
+        for (int i = 0; i < 64; i++) {
+            x.lay(0, i, 9);
+        }
+        is("35 nines", x.read(3, 0, 0, 0, 0, 64), 64);
+        is("37 nines", x.count(4) >= 64 ? 1 : 0, 1);
+        x.lay(0, 63, -1);
+        is("35 below 0", x.read(3, 0, 0, 0, 0, 64), -83);
+        is("35 dark all", x.read(3, 3, 0, 0, 0, 64), 0);
         is("35 all", x.read(2, 3, 0, 0, 0, 64), 0);
         is("37 dark", x.count(4), 0);
     }
@@ -864,7 +995,8 @@ public final class PromiseTest {
         is("37 a dead one tires not", x.count(2), 1);
         x.answer(0, 0, 0, true);
         is("37 answers", x.count(3), 1);
-        is("37 lights", x.count(4), 3);
+        x.light(5, 63, 1);
+        is("37 lights", x.count(4), 4);
         x.feed(0);
         is("37 tape", x.count(5), 8);
         is("37 nothing", x.count(6), NONE);
