@@ -611,21 +611,18 @@ public final class TongueSight {
             if (bit(left, scene) == 1) {
                 int like = set & likeHere(place, scene);
                 left &= ~like;
-                told += moves <= 0 || Integer.bitCount(like) == 1 ? 1 : mostTold(like, place, moves);
+                int all = Integer.bitCount(like);
+                int most = 1;
+                for (int move = 0; move < MOVES && moves > 0 && most < all; move++) {
+                    most = Math.max(most, toldFrom(like, placeAfter(place, move), moves - 1));
+                }
+                told += most;
             }
         }
         return told;
     }
 
-    /** The same of a set whose SCENES are all ALIKE till now, by the MOVE that is best for it. */
-    private int mostTold(int like, int place, int moves) {
-        int most = 0;
-        for (int move = 0; move < MOVES; move++) {
-            most = Math.max(most, toldFrom(like, placeAfter(place, move), moves - 1));
-        }
-        return most;
-    }
-
+    /** The least MOVE from the CAMERA's PLACE that is best for SCENES which are ALIKE there. */
     private int firstMove(int like, int moves) {
         int most = 0;
         int first = 0;

@@ -224,6 +224,20 @@ public final class PromiseTest {
         fault("least 3 1;least 3;", 4, 16);
         fault("dead 15;dead 15", 4, 13);
         TongueSight x = new TongueSight();
+        Due.feed(x, "roundrou");
+        x.end(5);
+        is("4 what was cut is not read", x.text(), -15);
+        is("5 the end", x.fault(), 2);
+        Due.feed(x, "there 99");
+        x.end(7);
+        x.feed(0x3b20202020202020L);
+        is("4 a figure that was cut", x.text(), 1);
+        is("6 nine", x.rule(10), 9);
+        for (String last : new String[] {"round", "9", ";", " way", "there 123"}) {
+            Due.feed(x, " ".repeat(200 - last.length()) + last);
+            is("4 a full tape", x.text() <= -10 ? 1 : 0, 1);
+        }
+        is("4 a full tape that is right", Due.tell(x, " ".repeat(191) + "there 88;"), 1);
         is("4 not told again", Due.tell(x, "least 3 1;least 4 1;dead 3;dead 4;"), 4);
     }
 
@@ -810,6 +824,18 @@ public final class PromiseTest {
         is("29 the first pair", x.beside(0), 1);
         is("29 the first pair", x.beside(1), 1);
         is("29 the first pair", x.beside(2), 1);
+        x = with("mask 3;", 0);
+        for (int scene = 0; scene < 6; scene++) {
+            x.light(scene, scene, 9);
+            x.light(scene, 27, scene);
+        }
+        x.light(0, 8, 5);
+        x.light(1, 0, 9);
+        x.light(1, 1, 0);
+        x.light(1, 27, 0);
+        is("29 not by tongue", x.beside(0), 0);
+        is("29 by ear alone", x.beside(1), 1);
+        is("29 not by both", x.beside(2), 0);
         is("29 bad", x.beside(3), BAD);
         is("29 bad", x.beside(-1), BAD);
     }
@@ -837,6 +863,10 @@ public final class PromiseTest {
         is("30 full", x.answer(0, 0, 15, false), FULL);
         is("30 bad first", x.answer(0, 0, 16, false), BAD);
         is("30 twelve", x.count(3), 12);
+        is("31 with all twelve", x.dead(), 0);
+        x = with("", 0, 0, 9);
+        x.answer(1, 0, 1, false);
+        is("31 nothing was asked of POINT 0", x.dead(), 0);
         x = with("tire 9;", 0, 0, 1);
         x.light(1, 0, 9);
         x.tenths(1, 9);
