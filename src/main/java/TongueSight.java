@@ -421,10 +421,10 @@ public final class TongueSight {
             return BAD;
         }
         Sheet from = sheets[k];
-        int refused = from.isOfOtherLane(lane) ? FAULT_CAST : 0;
+        int refused = 0;
         int told = 0;
         while (refused == 0 && told < n) {
-            refused = from.faultAt(f + told);
+            refused = from.faultAsOf(lane, f + told);
             if (refused == 0) {
                 if (from.cells[f + told] < 0 || from.cells[f + told] > LIGHT_MOST) {
                     return -20 - told;
@@ -1141,9 +1141,9 @@ public final class TongueSight {
             return i < 0 || i >= size ? FAULT_INDEX : 0;
         }
 
-        /** Nothing may be taken as of any lane: what is NULL is found only when a CELL is touched. */
-        boolean isOfOtherLane(int lane) {
-            return size >= 0 && laneOf != lane;
+        /** What it would find when CELL i is touched of this taken as of a lane; nothing is of every lane. */
+        int faultAsOf(int lane, int i) {
+            return size >= 0 && laneOf != lane ? FAULT_CAST : faultAt(i);
         }
 
         void put(int i, int v) {

@@ -281,7 +281,7 @@ public final class ModelTest {
         int lane = upTo(2);
         int f = random.nextBoolean() ? upTo(8) : upTo(63);
         int c = upTo(random.nextBoolean() ? 16 : 64);
-        int n = random.nextBoolean() ? upTo(10) : upTo(64);
+        int n = random.nextInt(8) == 0 ? 0 : random.nextBoolean() ? upTo(10) : upTo(64);
         return both(x.read(scene, k, lane, f, c, n), y.read(scene, k, lane, f, c, n));
     }
 }

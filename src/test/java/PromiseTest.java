@@ -35,6 +35,7 @@ public final class PromiseTest {
         kills();
         sheetsLaid();
         sheetsRead();
+        readsOfNoCells();
         counts();
         DUE.end();
     }
@@ -994,10 +995,6 @@ public final class PromiseTest {
         is("36 index", x.torn(), 2);
         is("35 an empty one of another lane", x.read(2, 0, 1, 0, 0, 1), 0);
         is("36 cast", x.torn(), 3);
-        is("35 nothing, no cell", x.read(2, 3, 1, 0, 0, 0), 0);
-        is("36 null is found at a cell", x.torn(), 0);
-        is("35 another lane, no cell", x.read(2, 1, 2, 0, 0, 0), 0);
-        is("36 cast is found before a cell", x.torn(), 3);
         x.sheet(0, 0, 64);
         for (int i = 0; i < 64; i++) {
             x.lay(0, i, 9);
@@ -1009,6 +1006,27 @@ public final class PromiseTest {
         is("35 dark all", x.read(3, 3, 0, 0, 0, 64), 0);
         is("35 all", x.read(2, 3, 0, 0, 0, 64), 0);
         is("37 dark", x.count(4), 0);
+    }
+
+    /** With n 0 the machine is asked for nothing: whatever the SHEET, its lane and f, no FAULT is left. */
+    private static void readsOfNoCells() {
+        TongueSight x = new TongueSight();
+        x.light(0, 5, 7);
+        x.sheet(0, 1, 0);
+        x.sheet(1, 1, 6);
+        x.sheet(2, 2, 1);
+        x.lay(2, 0, 10);
+        for (int k = 0; k < 4; k++) {
+            for (int lane = 0; lane < 3; lane++) {
+                for (int f : new int[] {0, -1, 6, MIN, MAX}) {
+                    x.read(1, 3, 0, 0, 0, 1);
+                    is("36 null", x.torn(), 1);
+                    is("35 no cell", x.read(0, k, lane, f, 5, 0), 0);
+                    is("36 no cell of sheet " + k + " as of lane " + lane, x.torn(), 0);
+                }
+            }
+        }
+        is("35 no cell is changed", x.lightOf(0, 5), 7);
     }
 
     private static void counts() {

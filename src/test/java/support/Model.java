@@ -777,11 +777,9 @@ final class Model {
         List<Integer> cells = new ArrayList<>();
         int found = 0;
         try {
-            byte[] b = lane == 0 ? (byte[]) sheets[k] : null;
-            short[] s = lane == 1 ? (short[]) sheets[k] : null;
-            int[] w = lane == 2 ? (int[]) sheets[k] : null;
             for (int i = 0; i < n; i++) {
-                int v = lane == 0 ? b[f + i] : lane == 1 ? s[f + i] : w[f + i];
+                Object from = sheets[k];
+                int v = lane == 0 ? ((byte[]) from)[f + i] : lane == 1 ? ((short[]) from)[f + i] : ((int[]) from)[f + i];
                 if (out(v, 9)) {
                     return -20 - i;
                 }
