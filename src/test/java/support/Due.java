@@ -1,3 +1,5 @@
+import java.util.List;
+
 /** Counts and prints answers that are not as due; feeds texts to THE TAPE. */
 final class Due {
     private int asked;
@@ -9,6 +11,21 @@ final class Due {
             wrong++;
             System.out.println(call + " answered " + got + ", due is " + want);
         }
+    }
+
+    /** Two rows of answers, each with its call: the first that is not the same is printed. */
+    void same(String what, List<String> got, List<String> want) {
+        asked++;
+        if (got.equals(want)) {
+            return;
+        }
+        wrong++;
+        int i = 0;
+        while (i < got.size() && i < want.size() && got.get(i).equals(want.get(i))) {
+            i++;
+        }
+        System.out.println(what + ": answered later " + (i < got.size() ? got.get(i) : "nothing") + ", due is "
+                + (i < want.size() ? want.get(i) : "nothing"));
     }
 
     void end() {
