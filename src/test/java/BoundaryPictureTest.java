@@ -258,7 +258,17 @@ public final class BoundaryPictureTest {
         is("19 told by what is felt first", x.right(15, 1, 0), 4);
         is("19 the MOVE if SCENE 0 is there", x.right(15, 1, 1), 0);
         is("19 the MOVE if SCENE 2 is there", x.right(12, 1, 1), 1);
-        is("19 SCENE 0 is not of the set", x.right(14, 1, 1), 0);
+        x.light(0, 17, 0);
+        is("19 SCENE 0 is not of the set, 1 is told at once", x.right(14, 1, 1), 0);
+        // 0 and 3 are parted by right, 1 and 2 by left.
+        x = told("", 12);
+        x.light(0, 22, 1);
+        x.light(1, 18, 5);
+        x.light(2, 18, 5);
+        x.light(1, 17, 1);
+        is("19 if the least SCENE is there", x.right(15, 1, 1), 1);
+        is("19 without it", x.right(14, 1, 1), 0);
+        is("19 all are told", x.right(15, 1, 0), 4);
     }
 
     // ---- promise 20

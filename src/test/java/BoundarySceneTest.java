@@ -280,14 +280,16 @@ public final class BoundarySceneTest {
         is("12 in the dark: 0, not 9", x.point(0, 0, 1), 0);
     }
 
+    /** POINTS to the left, to the right, above, below; -1 where the rows or columns end. */
+    private static int[] beside(int p) {
+        return new int[] {p % 4 > 0 ? p - 1 : -1, p % 4 < 3 ? p + 1 : -1, p > 3 ? p - 4 : -1, p < 12 ? p + 4 : -1};
+    }
+
     private static void promise12Round() {
-        int[][] beside = {{-1, 1, -1, 4}, {2, -1, -1, 7}, {-1, 13, 8, -1}, {14, -1, 11, -1}, {4, 6, 1, 9}};
-        int[] of = {0, 3, 12, 15, 5};
-        for (int i = 0; i < of.length; i++) {
-            int p = of[i];
+        for (int p = 0; p < 16; p++) {
             TongueSight x = with("round;", p, 7);
             x.kill(p, true);
-            for (int next : beside[i]) {
+            for (int next : beside(p)) {
                 if (next >= 0) {
                     is("12 ROUND from " + p + " to " + next, x.point(0, next, 1), 7);
                     is("12 to no other one", x.feels(0, 0), 1 << next);
@@ -329,6 +331,13 @@ public final class BoundarySceneTest {
                 }
                 is("12 SPREAD " + spread + " times " + sum + " by 16", x.point(0, 5, 2), spread * sum / 16);
             }
+        }
+        for (int p = 0; p < 16; p++) {
+            int due = 1 << p;
+            for (int next : beside(p)) {
+                due |= next < 0 ? 0 : 1 << next;
+            }
+            is("12 POINTS beside " + p, with("spread 4;", p, 9).feels(0, 0), due);
         }
         TongueSight x = full("spread 4;most 9;", 9);
         is("12 18 is MOST", x.point(0, 5, 2), 9);

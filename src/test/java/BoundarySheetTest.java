@@ -35,6 +35,7 @@ public final class BoundarySheetTest {
         promise36Latest();
         promise37Bounds();
         promise37NoneAndMost();
+        promise37OfThePastsTried();
         DUE.end();
     }
 
@@ -165,6 +166,10 @@ public final class BoundarySheetTest {
         x.answer(0, 0, 0, false);
         x.answer(0, 0, 1, true);
         is("31 another POINT was felt", x.dead(), 1);
+        x.answer(0, 0, 1, false);
+        x.answer(5, 25, 0, true);
+        x.answer(5, 25, 15, true);
+        is("31 both were felt", x.dead(), 0);
     }
 
     private static void promise31AsToldNoneDeadNoRound() {
@@ -595,5 +600,20 @@ public final class BoundarySheetTest {
         is("37 all are rested", run.call(y -> y.count(2)), 0);
         run.call(TongueSight::text);
         is("37 THE TAPE is empty", run.call(y -> y.count(5)), 0);
+    }
+
+    /** A refused call is tried from MIDST: it must have something of everything, or it would show no trace. */
+    private static void promise37OfThePastsTried() {
+        Traces.Run run = new Traces.Run();
+        Traces.MIDST.accept(run);
+        int[] some = {7, 2, 14, 5, 42, 23, 5};
+        for (int what = 0; what <= 6; what++) {
+            int w = what;
+            is("37 some of " + what, run.call(x -> x.count(w)), some[what]);
+        }
+        is("23 KNOWS something", run.call(x -> x.head(0)), 11);
+        is("5 a FAULT of a text", run.call(TongueSight::fault), 3);
+        is("36 a FAULT of a read()", run.call(TongueSight::torn), INDEX);
+        is("31 some MAY be DEAD", run.call(TongueSight::dead) != 0 ? 1 : 0, 1);
     }
 }

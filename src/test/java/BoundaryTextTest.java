@@ -25,6 +25,7 @@ public final class BoundaryTextTest {
         promise4FullTape();
         promise4EveryByte();
         promise4AsLongAsMayBe();
+        promise4NamesThatAreNone();
         promise4NumbersOfOneOrTwoFigures();
         promise4NumbersInTheirBounds();
         promise4PointsInTheirBounds();
@@ -291,6 +292,28 @@ public final class BoundaryTextTest {
         is("4 a NUMBER of two figures, not two NUMBERS", taken("least 12 3;", 1).rule(32), 3);
         taken("round ;", 1);
         taken(" round;", 1);
+    }
+
+    /** Each NAME with one letter less, one more, or another one: where it begins a line and behind way. */
+    private static void promise4NamesThatAreNone() {
+        String[] names = {"way", "spread", "less", "tire", "most", "least", "dead", "round", "mask", "own", "led",
+            "still", "there", "plain", "dark", "edges"};
+        for (String name : names) {
+            none(name.substring(1));
+            none(name.substring(0, name.length() - 1));
+            none("a" + name);
+            none(name + "z");
+            for (int i = 0; i < name.length(); i++) {
+                char other = name.charAt(i) == 'z' ? 'a' : (char) (name.charAt(i) + 1);
+                none(name.substring(0, i) + other + name.substring(i + 1));
+            }
+        }
+    }
+
+    private static void none(String name) {
+        fault(name, 1, 0);
+        fault("way " + name + ";", 1, 4);
+        fault("round;" + name + " 1;", 1, 6);
     }
 
     private static void promise4NumbersOfOneOrTwoFigures() {
