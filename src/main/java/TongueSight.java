@@ -21,8 +21,9 @@ public final class TongueSight {
     private static final int RULES = 12, LEAST = 12, PLAIN = 13, DARK = 14, EDGES = 15, WORDS = 16;
     private static final int RULE_LEAST = 20;
     private static final int[] AT_FIRST = {0, 0, 0, 0, 9, 0, 9, 8, 1, 0, 40, 0};
-    private static final int[] LOWEST = {0, 0, 0, 0, 1, 0, 1, 0, 0, 0, 1, 0};
-    private static final int[] HIGHEST = {2, 4, 3, 9, 9, 1, 9, 20, 20, 20, 99, 15};
+    // Bounds of the NUMBER that ends the line of a NAME; those of LEAST stand last.
+    private static final int[] LOWEST = {0, 0, 0, 0, 1, 0, 1, 0, 0, 0, 1, 0, 1};
+    private static final int[] HIGHEST = {2, 4, 3, 9, 9, 1, 9, 20, 20, 20, 99, 15, 9};
 
     // For each POINT those to the left of it, to the right, above, below; -1 where there is none.
     private static final int ON_RIGHT = 1, ABOVE = 2, BELOW = 3;
@@ -674,7 +675,9 @@ public final class TongueSight {
 
     /** THE TAPE, and the reading of a text from it into a draft of the laws. */
     private static final class Script {
+        // Kinds of TOKENS, and what may come next.
         private static final int END = 0, NAME = 1, NUMBER = 2, STOP = 3;
+        private static final int A_LINE = 0, A_WAY = 1, A_POINT = 2, A_NUMBER = 3, A_STOP = 4, NO_MORE = 5;
 
         final Laws draft = new Laws();
         int length;
@@ -685,6 +688,10 @@ public final class TongueSight {
         private int kind;
         private int value;
         private int start;
+        private int wanted;
+        private int name;
+        private int point;
+        private int lines;
         private int namesTold;
         private int leastsTold;
 
@@ -707,103 +714,120 @@ public final class TongueSight {
             next = 0;
             namesTold = 0;
             leastsTold = 0;
-            int lines = 0;
-            // A line has at least one byte, so there are never more of them than TAPE.
-            while (lines <= TAPE) {
+            lines = 0;
+            wanted = A_LINE;
+            // A TOKEN has at least one byte, so there are never more of them than TAPE, and the end.
+            for (int i = 0; i <= TAPE && wrong == 0 && wanted != NO_MORE; i++) {
                 takeToken();
-                if (wrong != 0 || kind == END) {
-                    break;
+                if (wrong == 0) {
+                    useToken();
                 }
-                readLine();
-                if (wrong != 0) {
-                    break;
-                }
-                lines++;
             }
             return lines;
         }
 
-        private void readLine() {
+        private void useToken() {
+            switch (wanted) {
+                case A_LINE:
+                    beginLine();
+                    break;
+                case A_WAY:
+                    tellWay();
+                    break;
+                case A_POINT:
+                    tellPoint();
+                    break;
+                case A_NUMBER:
+                    tellNumber();
+                    break;
+                default:
+                    endLine();
+                    break;
+            }
+        }
+
+        private void beginLine() {
+            if (kind == END) {
+                wanted = NO_MORE;
+                return;
+            }
             if (kind != NAME || value > LEAST) {
                 refuse(2);
                 return;
             }
-            int name = value;
-            if (name != LEAST && name != DEAD) {
-                if (bit(namesTold, name) == 1) {
-                    refuse(4);
-                    return;
-                }
-                namesTold |= 1 << name;
-            }
-            switch (name) {
-                case WAY:
-                    readWay();
-                    break;
-                case ROUND:
-                    draft.values[ROUND] = 1;
-                    break;
-                case DEAD:
-                    draft.values[DEAD] |= 1 << readNewPoint(draft.values[DEAD]);
-                    break;
-                case LEAST:
-                    readLeast();
-                    break;
-                default:
-                    draft.values[name] = readNumber(LOWEST[name], HIGHEST[name]);
-                    break;
-            }
-            readStop();
-        }
-
-        private void readWay() {
-            takeToken();
-            if (wrong == 0 && (kind != NAME || value < PLAIN)) {
-                refuse(2);
-            }
-            if (wrong == 0) {
-                draft.values[WAY] = value - PLAIN;
-            }
-        }
-
-        private void readLeast() {
-            int p = readNewPoint(leastsTold);
-            leastsTold |= 1 << p;
-            draft.least[p] = readNumber(1, 9);
-        }
-
-        /** A POINT that is not among those told already (bits). */
-        private int readNewPoint(int told) {
-            int p = readNumber(0, POINTS - 1);
-            if (wrong == 0 && bit(told, p) == 1) {
+            name = value;
+            boolean ofPoints = name == DEAD || name == LEAST;
+            if (!ofPoints && bit(namesTold, name) == 1) {
                 refuse(4);
-            }
-            return p;
-        }
-
-        /** A NUMBER within its bounds; the lowest one stands for one that is refused, as its draft is not used. */
-        private int readNumber(int lowest, int highest) {
-            if (wrong != 0) {
-                return lowest;
-            }
-            takeToken();
-            if (wrong == 0 && kind != NUMBER) {
-                refuse(2);
-            }
-            if (wrong == 0 && (value < lowest || value > highest)) {
-                refuse(3);
-            }
-            return wrong == 0 ? value : lowest;
-        }
-
-        private void readStop() {
-            if (wrong != 0) {
                 return;
             }
-            takeToken();
-            if (wrong == 0 && kind != STOP) {
-                refuse(2);
+            namesTold |= 1 << name;
+            wanted = ofPoints ? A_POINT : A_NUMBER;
+            if (name == WAY) {
+                wanted = A_WAY;
+            } else if (name == ROUND) {
+                draft.values[ROUND] = 1;
+                wanted = A_STOP;
             }
+        }
+
+        private void tellWay() {
+            if (kind != NAME || value < PLAIN) {
+                refuse(2);
+                return;
+            }
+            draft.values[WAY] = value - PLAIN;
+            wanted = A_STOP;
+        }
+
+        private void tellPoint() {
+            if (!isNumber(0, POINTS - 1)) {
+                return;
+            }
+            int told = name == DEAD ? draft.values[DEAD] : leastsTold;
+            if (bit(told, value) == 1) {
+                refuse(4);
+                return;
+            }
+            if (name == DEAD) {
+                draft.values[DEAD] = told | 1 << value;
+                wanted = A_STOP;
+            } else {
+                leastsTold = told | 1 << value;
+                point = value;
+                wanted = A_NUMBER;
+            }
+        }
+
+        private void tellNumber() {
+            if (!isNumber(LOWEST[name], HIGHEST[name])) {
+                return;
+            }
+            if (name == LEAST) {
+                draft.least[point] = value;
+            } else {
+                draft.values[name] = value;
+            }
+            wanted = A_STOP;
+        }
+
+        private void endLine() {
+            if (kind != STOP) {
+                refuse(2);
+                return;
+            }
+            lines++;
+            wanted = A_LINE;
+        }
+
+        /** Whether the TOKEN is a NUMBER within its bounds; it is refused if not. */
+        private boolean isNumber(int lowest, int highest) {
+            if (kind != NUMBER) {
+                refuse(2);
+            } else if (value < lowest || value > highest) {
+                refuse(3);
+            }
+            return wrong == 0;
         }
 
         private void refuse(int fault) {
